@@ -19,6 +19,7 @@ public final class RockTest {
         loaded();
         boat();
         sample();
+        allThatCanBe();
         due.end();
     }
 
@@ -370,5 +371,32 @@ public final class RockTest {
         road.days(1);
         due.is("the k-th is there", road.sample(1, 3), 3);
         due.is("no k-th ton", road.sample(1, 4), RockRoad.NONE);
+    }
+
+    /** All layers, all ships and all days: no row is too short. */
+    private static void allThatCanBe() {
+        RockRoad road = new RockRoad();
+        for (int i = 0; i < 6; i++) {
+            road.layer(20, 10 * (i + 1));
+        }
+        for (int i = 0; i < 10; i++) {
+            road.ship(0, i == 0 ? 60 : 900, 90);
+        }
+        road.days(1);
+        due.is("three layers in the first ship", road.about(0, 6), 20 * (10 + 20 + 30));
+        due.is("three in the second", road.about(1, 6), 20 * (40 + 50 + 60));
+        due.is("its last layer", road.cargo(1, 5), 20);
+        due.is("its sample", road.sample(1, 1), 50);
+        due.is("none for the last ship", road.loaded(9, 0), 0);
+        due.is("about(10, 0)", road.about(10, 0), RockRoad.BAD);
+        due.is("turn(10)", road.turn(10), RockRoad.BAD);
+        due.is("cargo(0, 6)", road.cargo(0, 6), RockRoad.BAD);
+        due.is("left(6)", road.left(6), RockRoad.BAD);
+        Due.letGo(road, 199);
+        due.is("tons dug on day 200", road.count(4), 120);
+        due.is("ships that are dry on day 200", road.count(6), 9);
+        due.is("a boat on day 200", road.boat(9, 90), 90);
+        due.is("days used by day 200", road.owed(9, 0), 200);
+        due.is("on none of them lighters were shut", road.shared(9, 1) + road.shared(9, 2), 200);
     }
 }
