@@ -18,6 +18,7 @@ public final class CharterTest {
     }
 
     private static void type() {
+        due.promise(13, "bytes come");
         RockRoad road = new RockRoad();
         int[] bad = {0, -1, 9, MIN, MAX};
         for (int n : bad) {
@@ -46,6 +47,7 @@ public final class CharterTest {
     }
 
     private static void clear() {
+        due.promise(14, "bytes go");
         RockRoad road = new RockRoad();
         road.ship(0, 1, 1);
         due.is("an empty draft", road.clear(), 0);
@@ -59,6 +61,7 @@ public final class CharterTest {
     }
 
     private static void charter() {
+        due.promise(15, "one in place of another");
         RockRoad road = new RockRoad();
         due.is("no ship, an empty draft", road.charter(0), RockRoad.BAD);
         Due.type(road, "q");
@@ -84,6 +87,7 @@ public final class CharterTest {
     }
 
     private static void texts() {
+        due.promise(15, "texts that can stand");
         read("l0", 0, 0, 0, 0, 0, 0);
         read("l999d999b999", 999, 999, 999, 0, 0, 0);
         read("l7l8", 8, 0, 0, 0, 0, 0);
@@ -111,6 +115,7 @@ public final class CharterTest {
     }
 
     private static void faults() {
+        due.promise(15, "texts that cannot stand");
         fault("l", 1);
         fault("xd", 2);
         fault("l5b", 3);
@@ -149,6 +154,7 @@ public final class CharterTest {
     }
 
     private static void term() {
+        due.promise(16, "of each SHIP its own");
         RockRoad road = new RockRoad();
         due.is("term of no ship", road.term(0, 0), RockRoad.BAD);
         road.ship(0, 1, 1);
@@ -166,6 +172,7 @@ public final class CharterTest {
     }
 
     private static void used() {
+        due.promise(17, "USED with each of x, h, w");
         RockRoad road = new RockRoad();
         road.days(3);
         road.ship(0, 100, 8);
@@ -202,6 +209,7 @@ public final class CharterTest {
     }
 
     private static void owed() {
+        due.promise(17, "OWED ahead of and behind LOADED");
         RockRoad road = new RockRoad();
         due.is("owed of no ship", road.owed(0, 0), BAD_OWED);
         road.layer(5000, 1);
@@ -233,6 +241,7 @@ public final class CharterTest {
     }
 
     private static void shared() {
+        due.promise(18, "RAIN, TURN and WORK");
         RockRoad road = new RockRoad();
         due.is("shared of no ship", road.shared(0, 0), RockRoad.BAD);
         road.ship(0, 900, 6);

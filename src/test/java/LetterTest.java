@@ -16,6 +16,7 @@ public final class LetterTest {
     }
 
     private static void delay() {
+        due.promise(19, "what it was");
         RockRoad road = new RockRoad();
         int[] bad = {-1, 61, MIN, MAX};
         for (int v : bad) {
@@ -27,6 +28,7 @@ public final class LetterTest {
     }
 
     private static void letter() {
+        due.promise(20, "letters with unlike DELAYS");
         RockRoad road = new RockRoad();
         road.layer(500, 1);
         road.ship(0, 100, 90);
@@ -61,6 +63,7 @@ public final class LetterTest {
     }
 
     private static void letterAtTheEnd() {
+        due.promise(20, "the last DAYS");
         RockRoad road = new RockRoad();
         Due.letGo(road, 180);
         road.delay(1);
@@ -72,6 +75,7 @@ public final class LetterTest {
     }
 
     private static void foretold() {
+        due.promise(21, "the first DAYS");
         RockRoad road = new RockRoad();
         road.layer(100, 1);
         road.ship(0, 900, 90);
@@ -100,6 +104,7 @@ public final class LetterTest {
     }
 
     private static void foretoldOfSevenDays() {
+        due.promise(21, "seven DAYS");
         RockRoad road = new RockRoad();
         road.layer(60, 1);
         road.delay(0);
@@ -114,6 +119,7 @@ public final class LetterTest {
     }
 
     private static void foretoldOfTheLatest() {
+        due.promise(21, "the latest DAY among these");
         RockRoad road = new RockRoad();
         road.layer(5000, 1);
         road.ship(0, 900, 90);
@@ -129,6 +135,7 @@ public final class LetterTest {
     }
 
     private static void count() {
+        due.promise(22, "all of it on some DAYS");
         RockRoad road = new RockRoad();
         road.layer(80, 1);
         road.layer(9, 1);
@@ -169,6 +176,7 @@ public final class LetterTest {
     }
 
     private static void trace() {
+        due.promise(23, "turns leave it, DAYS do not");
         RockRoad road = new RockRoad();
         due.is("at first", road.trace(), 0);
         road.ship(2, 5, 5);

@@ -24,6 +24,7 @@ public final class RockTest {
     }
 
     private static void newObject() {
+        due.promise(1, "all that can be asked of it");
         RockRoad road = new RockRoad();
         for (int what = 0; what <= 6; what++) {
             due.is("new: count(" + what + ")", road.count(what), 0);
@@ -44,6 +45,7 @@ public final class RockTest {
     }
 
     private static void layer() {
+        due.promise(2, "LAYERS come one below the other");
         RockRoad road = new RockRoad();
         int[][] bad = {{0, 1}, {-1, 1}, {5001, 1}, {MIN, 1}, {MAX, 1}, {1, 0}, {1, -1}, {1, 101}, {1, MIN}, {1, MAX}};
         for (int[] b : bad) {
@@ -63,6 +65,7 @@ public final class RockTest {
     }
 
     private static void left() {
+        due.promise(3, "the top is dug first");
         RockRoad road = new RockRoad();
         road.layer(70, 3);
         road.layer(70, 4);
@@ -80,6 +83,7 @@ public final class RockTest {
     }
 
     private static void swell() {
+        due.promise(4, "told, and told again");
         RockRoad road = new RockRoad();
         due.is("swell(-1, 1)", road.swell(-1, 1), RockRoad.BAD);
         due.is("swell(201, 1)", road.swell(201, 1), RockRoad.BAD);
@@ -100,6 +104,7 @@ public final class RockTest {
     }
 
     private static void ship() {
+        due.promise(5, "SHIPS arrive");
         RockRoad road = new RockRoad();
         int[][] bad = {{-1, 1, 1}, {3, 1, 1}, {MIN, 1, 1}, {MAX, 1, 1}, {0, 0, 1}, {0, 901, 1}, {0, -1, 1},
             {0, 1, 0}, {0, 1, 91}, {0, 1, -1}, {0, MAX, 1}, {0, 1, MAX}};
@@ -123,6 +128,7 @@ public final class RockTest {
     }
 
     private static void turn() {
+        due.promise(6, "of each KIND");
         RockRoad road = new RockRoad();
         due.is("turn(0) of none", road.turn(0), RockRoad.BAD);
         road.days(7);
@@ -150,6 +156,7 @@ public final class RockTest {
     }
 
     private static void days() {
+        due.promise(7, "up to the last one");
         RockRoad road = new RockRoad();
         int[] bad = {0, -1, 21, MIN, MAX};
         for (int n : bad) {
@@ -167,6 +174,7 @@ public final class RockTest {
     }
 
     private static void daysByTurns() {
+        due.promise(7, "SHIPS load by TURNS");
         RockRoad road = new RockRoad();
         road.layer(5000, 1);
         road.ship(2, 900, 90);
@@ -194,6 +202,7 @@ public final class RockTest {
     }
 
     private static void daysBySwell() {
+        due.promise(7, "SHIPS load as THE SWELL lets them");
         RockRoad road = new RockRoad();
         road.layer(5000, 1);
         for (int i = 0; i < 3; i++) {
@@ -213,6 +222,7 @@ public final class RockTest {
     }
 
     private static void daysWithLittleLeft() {
+        due.promise(7, "what LAYERS have at most");
         RockRoad road = new RockRoad();
         road.layer(70, 1);
         road.layer(8, 2);
@@ -239,6 +249,7 @@ public final class RockTest {
     }
 
     private static void about() {
+        due.promise(8, "all of it on some DAYS");
         RockRoad road = new RockRoad();
         road.layer(30, 7);
         road.layer(100, 3);
@@ -268,6 +279,7 @@ public final class RockTest {
     }
 
     private static void cargo() {
+        due.promise(9, "two SHIPS, three LAYERS");
         RockRoad road = new RockRoad();
         road.layer(100, 1);
         road.layer(5, 1);
@@ -289,6 +301,7 @@ public final class RockTest {
     }
 
     private static void loaded() {
+        due.promise(10, "ahead of, on and behind its DAYS");
         RockRoad road = new RockRoad();
         road.layer(500, 1);
         road.days(2);
@@ -314,6 +327,7 @@ public final class RockTest {
     }
 
     private static void boat() {
+        due.promise(11, "one that is DRY, one that is LOADED");
         RockRoad road = new RockRoad();
         road.layer(500, 1);
         road.ship(0, 30, 1);
@@ -349,6 +363,7 @@ public final class RockTest {
     }
 
     private static void sample() {
+        due.promise(12, "three LAYERS");
         RockRoad road = new RockRoad();
         road.layer(7, 100);
         road.layer(4, 10);
@@ -375,6 +390,7 @@ public final class RockTest {
 
     /** All layers, all ships and all days: no row is too short. */
     private static void allThatCanBe() {
+        due.promise(7, "all LAYERS, SHIPS and DAYS");
         RockRoad road = new RockRoad();
         for (int i = 0; i < 6; i++) {
             road.layer(20, 10 * (i + 1));
