@@ -168,6 +168,10 @@ public final class RockBoundsTest {
             + "days(1); turn(0) = -300");
         due.says(6, "at least 9 DAYS behind on DAY 200", "9 * days(20); days(11); ship(2, 1, 1); days(1); "
             + "ship(2, 1, 1); days(8); count(0) = 200; turn(0) = 1410; turn(1) = 6421");
+        due.says(6, "at least 9 DAYS behind: one that is LOADED, too", "layer(1, 1); ship(2, 1, 90); days(8); about(0, 5) = 0; "
+            + "turn(0) = 4500; days(1); turn(0) = -500");
+        due.says(6, "at least 9 DAYS behind: one that is DRY, too", "ship(2, 1, 1); days(8); count(6) = 1; turn(0) = 4500; "
+            + "days(1); turn(0) = -500");
         due.says(6, "a TURN can be -1, as BAD is", "9 * ship(0, 1, 1); 2 * days(20); days(9); ship(1, 1, 1); turn(9) = -1; "
             + "trace() = 11; turn(10) = -1; trace() = 11");
         due.says(6, "one that is LOADED or DRY has the same TURN", "layer(1, 1); ship(0, 1, 9); ship(1, 1, 1); "
