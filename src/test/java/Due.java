@@ -44,6 +44,12 @@ final class Due {
         where = "promise " + promise + " (" + PROMISES.get(promise - 1) + "), " + sentence;
     }
 
+    /** What is asked from here on belongs to no promise. */
+    void topic(String place) {
+        number = 0;
+        where = place;
+    }
+
     void promiseOf(String call) {
         promise(numberOf(call), "by the name of the call");
     }

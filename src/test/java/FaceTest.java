@@ -5,7 +5,6 @@ import java.lang.reflect.Modifier;
 import java.nio.file.Files;
 import java.nio.file.Path;
 import java.util.ArrayList;
-import java.util.HashSet;
 import java.util.List;
 import java.util.Set;
 import java.util.TreeSet;
@@ -22,6 +21,9 @@ public final class FaceTest {
         "int owed(int,int)", "int shared(int,int)", "int delay(int)", "int letter(int,int)", "int foretold()",
         "int count(int)", "long trace()");
 
+    private static final Set<Class<?>> CONSTANTS = Set.of(int.class, long.class, boolean.class, char.class,
+        String.class, int[].class, long[].class, char[].class, byte[].class);
+
     private static final List<String> NOT_ALLOWED = List.of(
         "\\bthrow\\b", "\\btry\\b", "\\bcatch\\b", "\\bsynchronized\\b", "\\bassert\\b", "\\bpackage\\b", "::",
         "Exact\\b", "\\bstatic\\s*\\{", "\\bimport\\s+(?!java\\.util\\.(ArrayList|List|Arrays|Iterator);)");
@@ -30,6 +32,7 @@ public final class FaceTest {
         constants();
         members();
         classesInside();
+        fieldsAndMethods();
         words();
         due.end();
     }
@@ -47,26 +50,16 @@ public final class FaceTest {
         due.is("constructors", RockRoad.class.getDeclaredConstructors().length, 1);
         due.is("public constructors", RockRoad.class.getConstructors().length, 1);
         Set<String> open = new TreeSet<>();
-        Set<String> openNames = new HashSet<>();
-        List<String> hiddenNames = new ArrayList<>();
         for (Method method : RockRoad.class.getDeclaredMethods()) {
             due.holds(method.getName() + " is no lambda", !method.getName().startsWith("lambda$"));
-            if (Modifier.isPrivate(method.getModifiers())) {
-                hiddenNames.add(method.getName());
-            } else {
+            if (!Modifier.isPrivate(method.getModifiers())) {
                 open.add(signature(method));
-                openNames.add(method.getName());
             }
         }
         due.holds("the public methods are those of the document: " + open, open.equals(METHODS));
-        for (String name : hiddenNames) {
-            due.holds("private method " + name + " bears a name of its own", !openNames.contains(name));
-        }
         int openFields = 0;
         for (Field field : RockRoad.class.getDeclaredFields()) {
             openFields += Modifier.isPrivate(field.getModifiers()) ? 0 : 1;
-            due.holds("static field " + field.getName() + " is final",
-                !Modifier.isStatic(field.getModifiers()) || Modifier.isFinal(field.getModifiers()));
         }
         due.is("fields that can be seen", openFields, 4);
     }
@@ -87,6 +80,43 @@ public final class FaceTest {
             due.holds(one.getName() + " is static", Modifier.isStatic(one.getModifiers()));
             due.holds(one.getName() + " is not public", !Modifier.isPublic(one.getModifiers()));
         }
+    }
+
+    private static void fieldsAndMethods() {
+        List<Class<?>> classes = new ArrayList<>(List.of(RockRoad.class.getDeclaredClasses()));
+        classes.add(RockRoad.class);
+        for (Class<?> one : classes) {
+            int fields = 0;
+            for (Field field : one.getDeclaredFields()) {
+                fields += Modifier.isStatic(field.getModifiers()) ? 0 : 1;
+                due.holds(one.getName() + "." + field.getName() + " is a constant, if it is static", isAllowed(field));
+            }
+            due.holds(one.getName() + " has some twenty fields at most", fields <= 20);
+            for (Method method : one.getDeclaredMethods()) {
+                String name = one.getName() + "." + method.getName();
+                due.holds(name + " has seven parameters at most", method.getParameterCount() <= 7);
+                due.holds(name + " bears a name of its own, if it is private",
+                    !Modifier.isPrivate(method.getModifiers()) || !isOfFace(method.getName()));
+            }
+        }
+    }
+
+    private static boolean isAllowed(Field field) {
+        if (!Modifier.isStatic(field.getModifiers())) {
+            return true;
+        }
+        Class<?> type = field.getType();
+        boolean ofEnum = type.isEnum() || type.isArray() && type.getComponentType().isEnum();
+        return Modifier.isFinal(field.getModifiers()) && (ofEnum || CONSTANTS.contains(type));
+    }
+
+    private static boolean isOfFace(String name) {
+        for (String signature : METHODS) {
+            if (signature.contains(" " + name + "(")) {
+                return true;
+            }
+        }
+        return false;
     }
 
     private static void words() throws IOException {
